@@ -21,6 +21,7 @@ final class PromiseTest {
         promise6Pour();
         promise7Tick();
         tickMomenta();
+        tickOfAll();
         tickAngles();
         tickPushesDye();
         tickMixesDye();
@@ -133,11 +134,18 @@ final class PromiseTest {
         due("the slot stays", 5, x.restore(1));
         due("the rings of the slot", 6, x.state(1));
         due("the dye of the slot", 1000, x.colour(2, 0));
+        x.set(EKMAN, 200);
+        x.spin(0, 500);
+        x.spin(1, 0);
+        x.marker(999, 0);
+        x.tick(1);
+        due("a marker with a crossing", 1, x.where(1, 4) + x.where(0, 4));
         due("setUp(6) to as many", 6, x.setUp(6));
         dueNew("setUp(6)", x, 6);
         due("a marker behind setUp", 0, x.marker(0, 0));
         due("its path behind setUp", NONE, x.path(0, 0, 0));
-        due("its crossings behind setUp", 0, x.where(0, 4));
+        x.marker(0, 0);
+        due("crossings behind setUp", 0, x.where(0, 4) + x.where(1, 4));
     }
 
     private static void promise3Set() {
@@ -314,6 +322,32 @@ final class PromiseTest {
         tickFloor();
     }
 
+    /** The most rings, markers and colours: every row is used up to its end. */
+    private static void tickOfAll() {
+        DyeTank x = still(12);
+        x.set(EKMAN, 100);
+        x.spin(11, -100);
+        x.spin(10, 100);
+        for (int number = 0; number < 6; number++) {
+            x.marker(11999 - number, 0);
+        }
+        for (int colour = 0; colour < 3; colour++) {
+            x.pour(colour, BOTTOM, 10, 23, 1000);
+            x.pour(colour, TOP, 11, 23, 1000);
+        }
+        due("a tick of all", 1, x.tick(1));
+        for (int colour = 0; colour < 3; colour++) {
+            due("inward from 11", 100, x.dye(colour, TOP, 10, 22));
+            due("inward from 10", 100, x.dye(colour, BOTTOM, 9, 23));
+            due("a forecast", 0, x.arrives(colour, 11, 450, 1));
+            due("a forecast of more", NONE, x.arrives(colour, 11, 451, 3));
+        }
+        for (int number = 0; number < 6; number++) {
+            due("marker " + number, 11899 - number, x.where(number, 0));
+        }
+        due("how rings settle", NONE, x.settles(99, 5));
+    }
+
     private static void tickFloor() {
         DyeTank x = still(3);
         x.set(FLOOR, 100);
@@ -322,6 +356,10 @@ final class PromiseTest {
         due("the floor and ring 0", -150, x.ring(0, 1));
         due("the floor and ring 1", -450, x.ring(1, 1));
         due("the floor and ring 2", -750, x.ring(2, 1));
+        x.set(FLOOR_SPEED, 1500);
+        x.spinAll(1490, 509);
+        x.tick(1);
+        due("the floor and ring 2: 495500 / 1000", 509 * 5 + 495, x.ring(2, 1));
         x = still(3);
         x.set(FLOOR, 5);
         x.spinAll(90, 90);
@@ -453,6 +491,10 @@ final class PromiseTest {
         due("as much as there can be", 2500000, x.dye(2, TOP, 1, 0));
         x.tick(1);
         due("by the difference", 753 - 125, x.dye(0, TOP, 0, 3));
+        x.set(MIX, 1);
+        x.pour(1, TOP, 1, 9, 4000);
+        x.tick(1);
+        due("the least MIX", 2, x.dye(1, BOTTOM, 1, 9));
         x = still(2);
         x.set(EKMAN, 100);
         x.set(MIX, 500);
@@ -558,6 +600,11 @@ final class PromiseTest {
         for (int what : wrong) {
             due("colour(2, " + what + ")", BAD_VALUE, x.colour(2, what));
         }
+        x.setUp(2);
+        x.pour(2, TOP, 0, 0, 48);
+        due("all in the first cell: the greatest amount", 48, x.colour(2, 3));
+        due("all in the first cell: the number of cells", 1, x.colour(2, 2));
+        due("all in the first cell: an unevenness without a rest", 95, x.colour(2, 5));
         x.setUp(12);
         for (int times = 0; times < 10; times++) {
             x.pour(0, TOP, 11, 23, 1000000);
@@ -612,6 +659,11 @@ final class PromiseTest {
             due("place of " + number, 5999 - number, x.where(number, 0));
             due("angle of " + number, 3599 - number, x.where(number, 1));
         }
+        x.tick(2);
+        x.save(0);
+        due("forecasts of six", 0, x.meet(5, 5, 0, 1));
+        x.restore(0);
+        due("the last of six, saved", 2, x.where(5, 3));
         x.setUp(12);
         due("the outermost of 12 rings", 0, x.marker(11999, 0));
         due("beyond 12 rings", BAD_VALUE, x.marker(12000, 0));
@@ -703,6 +755,10 @@ final class PromiseTest {
         due("settles(1000, 1)", 0, x.settles(1000, 1));
         due("ring 0: 100, 0, -90 and ring 1: 0, -90, -171", 1, x.settles(900, 2));
         due("ring 0 is not within 899 before", 2, x.settles(899, 2));
+        x.spin(0, -1000);
+        x.spin(1, -900);
+        due("slower than the floor by 100", 1, x.settles(99, 1));
+        due("slower than the floor: -1000, -990, -981", 2, x.settles(81, 2));
         x.spinAll(-900, -899);
         due("each ring counts", NONE, x.settles(0, 1000));
         x.spin(1, -900);
@@ -843,12 +899,12 @@ final class PromiseTest {
             "v1:", "v1:-", "v1:+", "v1:--", "v1:00", "v1:-01", "v1:1501", "v1:1510", "v1:1600", "v1:2000", "v1:15000",
             "v1:-1501", "d", "d^", "dd", "da", "dab", "da^", "da^12", "da^1", "da^1:", "da^1:24", "da^1:30", "da^1:01",
             "da^1:2", "da^1:2=", "da^1:2=0", "da^1:2=-", "da^1:2=1000000", "da^1:2=9999991", "da^1,", "t1,v",
-            "v0:0:", "da_0=1", "t1,t2,t3,t4,t5,t6,t7,t8,t9,t1,t2,t3,t4,t5,t6,t7,t8,t9,t1,t1,", "x"};
+            "v0:0:", "da_0=1", "v:0", "da^:1=1", "da^1:=1", "t1,t2,t3,t4,t5,t6,t7,t8,t9,t1,t2,t3,t4,t5,t6,t7,t8,t9,t1,t1,", "x"};
         int[] faults = {0, 1, 1, 1, 4, 3, 3, 2, 0, 1, 1, 2, 2, 2, 2,
             3, 4, 3, 4, 4, 5, 6, 6, 6, 6, 7,
             7, 1, 1, 1, 2, 2, 3, 4, 4, 5, 6, 6, 6,
             6, 7, 7, 7, 13, 13, 4, 4,
-            4, 4, 60, 0};
+            4, 4, 1, 3, 5, 60, 0};
         DyeTank x = new DyeTank();
         for (String text : correct) {
             say(x, text);
@@ -884,6 +940,7 @@ final class PromiseTest {
         say(x, "dc_2:3=5");
         due("one step", 1, x.carryOut());
         due("colour c", 75, x.colour(2, 0));
+        due("too little for mixing, and the latter below", 70, x.colour(2, 1));
         stepsThatFail(x);
         say(x, "t1,t1,t1,t1,t1,t1,t1,t1,t1,t1,t1,t1,t1,t1,t1,t1,t1,t1,t1,t2");
         due("as many steps as a pad can have", 20, x.carryOut());
