@@ -346,6 +346,15 @@ final class PromiseTest {
             due("marker " + number, 11899 - number, x.where(number, 0));
         }
         due("how rings settle", NONE, x.settles(99, 5));
+        x.pour(0, BOTTOM, 0, 0, 7);
+        due("all but 7 of what was poured below is below", 1000, x.colour(0, 1));
+        x.set(MIX, 500);
+        x.set(FLOOR, 100);
+        x.set(FLOOR_SPEED, 1500);
+        x.spin(11, -1500);
+        due("another tick of all", 2, x.tick(1));
+        due("the floor's greatest part: 6900000 / 1000", -34500 + 6900, x.ring(11, 1));
+        due("none is lost", 2007, x.colour(0, 0));
     }
 
     private static void tickFloor() {
