@@ -470,8 +470,10 @@ public final class DyeTank {
         }
 
         void giveVelocities(int from, int to) {
+            // A tank has two rings or more, so that this divides by 1 at least.
+            int last = Math.max(1, rings - 1);
             for (int ring = 0; ring < rings; ring++) {
-                giveVelocity(ring, from + (to - from) * ring / (rings - 1));
+                giveVelocity(ring, from + (to - from) * ring / last);
             }
         }
 
