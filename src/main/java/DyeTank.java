@@ -391,7 +391,7 @@ public final class DyeTank {
         return value >= least && value <= greatest;
     }
 
-    /** All that a slot keeps. It always has room for the most rings and markers, so that it can become like any other. */
+    /** All that a slot keeps: always with room for the most rings and markers, so that it can become like any other. */
     private static final class Tank {
         int rings;
         int time;
