@@ -1,11 +1,7 @@
-/** A test for each promise: every due number is worked out by hand from the document. */
-final class PromiseTest {
-    private static final int NO_SUCH = -1, BAD_VALUE = -2, BAD_TEXT = -3, TOO_MANY = -4, NOT_POSSIBLE = -5, NONE = -6;
-    private static final int NO_SUCH_GONE = -1000000001, BAD_VALUE_GONE = -1000000002;
-    private static final int TOP = 0, BOTTOM = 1;
-    private static final int SHEAR = 0, WALL = 1, WALL_SPEED = 2, FLOOR = 3, FLOOR_SPEED = 4, EKMAN = 5, MIX = 6;
-    private static final int LEAST = Integer.MIN_VALUE, GREATEST = Integer.MAX_VALUE;
+import java.util.List;
 
+/** A test for each promise: every due number is worked out by hand from the document. */
+final class PromiseTest extends Tanks {
     private static final Check CHECK = new Check("PromiseTest");
 
     private static void due(String call, long want, long got) {
@@ -44,18 +40,6 @@ final class PromiseTest {
         promise23Save();
         promise24Restore();
         CHECK.finish();
-    }
-
-    /** A tank in which nothing changes a velocity, without pushes and mixing. */
-    private static DyeTank still(int rings) {
-        DyeTank x = new DyeTank();
-        x.setUp(rings);
-        x.set(SHEAR, 0);
-        x.set(WALL, 0);
-        x.set(FLOOR, 0);
-        x.set(EKMAN, 0);
-        x.set(MIX, 0);
-        return x;
     }
 
     private static void say(DyeTank x, String text) {
@@ -1019,7 +1003,7 @@ final class PromiseTest {
         x.marker(950, 0);
         x.tick(3);
         x.say('t');
-        long[] before = all(x);
+        List<Long> before = everything(x);
         x.save(0);
         due("restore(1) of nothing", NOT_POSSIBLE, x.restore(1));
         for (int times = 0; times < 2; times++) {
@@ -1035,43 +1019,11 @@ final class PromiseTest {
                 x.tick(1);
             }
             due("restore(0)", 3, x.restore(0));
-            long[] behind = all(x);
-            for (int index = 0; index < before.length; index++) {
-                due("number " + index + " behind restore " + times, before[index], behind[index]);
-            }
+            CHECK.same("everything behind restore " + times, before, everything(x));
             due("the pad is not restored", 2 + times, x.state(5));
         }
         due("it goes on from there", 4, x.tick(1));
         due("restore(0) once more", 3, x.restore(0));
         due("the other slot has nothing yet", NOT_POSSIBLE, x.restore(1));
-    }
-
-    /** Numbers about everything that a slot keeps. */
-    private static long[] all(DyeTank x) {
-        long[] numbers = new long[400];
-        int count = 0;
-        for (int what = 0; what < 13; what++) {
-            numbers[count++] = what == 5 ? 0 : x.state(what);
-        }
-        for (int ring = 0; ring < 3; ring++) {
-            for (int what = 0; what < 7; what++) {
-                numbers[count++] = x.ring(ring, what);
-            }
-            for (int sector = 0; sector < 24; sector++) {
-                numbers[count++] = x.dye(0, TOP, ring, sector);
-                numbers[count++] = x.dye(0, BOTTOM, ring, sector);
-                numbers[count++] = x.dye(2, BOTTOM, ring, sector);
-            }
-        }
-        for (int what = 0; what < 18; what++) {
-            numbers[count++] = x.colour(what / 6, what % 6);
-        }
-        for (int what = 0; what < 5; what++) {
-            numbers[count++] = x.where(0, what);
-            numbers[count++] = x.path(0, what, 0);
-            numbers[count++] = x.path(0, what, 1);
-        }
-        numbers[count] = x.where(1, 0);
-        return numbers;
     }
 }
