@@ -362,8 +362,15 @@ final class TickSentences extends Sentences {
         due("and not by two", 0, x.ring(1, 4));
         due("outward by one ring", 500, x.ring(1, 5));
         due("and not by two", 0, x.ring(2, 5));
-        due("in and out", 550, x.ring(2, 6));
-        due("half of 100 alone", 50, x.ring(1, 6));
+        due("in and out, inward", 550, x.ring(2, 6));
+        due("half of 100 alone, inward", 50, x.ring(1, 6));
+        x = pushing(4);
+        x.spinAll(500, 500);
+        x.pour(0, TOP, 0, 0, 1000);
+        x.pour(0, TOP, 1, 0, 100);
+        x.tick(1);
+        due("in and out, outward", 550, x.ring(1, 4));
+        due("half of 100 alone, outward", 50, x.ring(2, 4));
     }
 
     private static void mixing() {
