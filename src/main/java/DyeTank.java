@@ -572,7 +572,8 @@ public final class DyeTank {
 
         long unevenness(int colour) {
             long all = totals[colour];
-            long count = (long) LAYERS * rings * SECTORS;
+            // There are always cells, so that this divides by 1 at least.
+            long count = Math.max(1, LAYERS * rings * SECTORS);
             long sum = 0;
             for (int layer = TOP; layer <= BOTTOM; layer++) {
                 int row = rowOf(layer, 0);
